@@ -162,6 +162,13 @@ public final class PromisesTest {
         x.hold(2, 0);
         // the rests of 0, 1, 2 by 3 come on top
         due(16, x.personIs(0, 3));
+        x.gate(3, 4, 0);
+        x.gate(3, 4, 1);
+        x.hold(3, 0);
+        x.hold(4, 0);
+        due(18, x.personIs(0, 3));
+        x.hold(3, -1);
+        x.hold(4, -1);
         int[] boy = {17, 16, 15, 14, 13, 12, 17};
         for (int h = 0; h < 7; h++) {
             x.hour(h);
@@ -536,7 +543,11 @@ public final class PromisesTest {
         x.hour(9969);
         due(0, x.loose(30));
         due(9999, x.count(3));
-        // z 1: 4312058 (rest 2 by 4), 9797010 (rest 0 by 2), 1393814 (no rest 0 by 4)
+        // one of each is enough for draws
+        x = people(9);
+        x.gate(0, 1, 0);
+        x.loose(1);
+        due(drawnOf(1, 3), x.count(9));
         x = people(9, 9);
         for (int g = 0; g < 4; g++) x.gate(0, 1, 1);
         int z = 1;
@@ -552,6 +563,12 @@ public final class PromisesTest {
             due(draw[2] % 4 == 0 ? -1 : draw[1] % 2, x.gateIs(draw[0] % 4, 3));
             due(z, x.count(9));
         }
+    }
+
+    private static int drawnOf(int z, int times) {
+        int drawn = z;
+        for (int i = 0; i < times; i++) drawn = drawn * 1103515245 + 12345;
+        return drawn;
     }
 
     private static void hour() {
@@ -623,19 +640,27 @@ public final class PromisesTest {
         }
         for (int g = 0; g < 5; g++) due(g + 1, x.first(g));
         due(NONE, x.first(5));
-        // the 60th hour still counts, the 61st does not
-        x = people(0);
-        x.gate(0, 1, 9);
-        x.hold(0, 0);
-        x.gate(1, 2, 9);
-        x.grass(0, 62);
-        x.grass(1, 0);
-        x.hour(9);
-        text(x, 0, "19*(h=20)");
+        // once a day one goes: behind 12, 36, 60 hours; an hour earlier in the day the last one is too late
+        x = dailyGates();
         due(12, x.first(0));
-        x.become(0, 9);
-        text(x, 0, "h=20&18");
-        due(NONE, x.first(0));
+        due(36, x.first(1));
+        due(60, x.first(2));
+        x.hour(23);
+        due(37, x.first(1));
+        due(NONE, x.first(2));
+        x.hour(9999);
+        due(21, x.first(0));
+    }
+
+    /** Three gates held by a man for whom they are too heavy in the 12th hour of a day alone. */
+    private static GateMinds dailyGates() {
+        GateMinds x = people(0);
+        for (int g = 0; g < 3; g++) {
+            x.gate(0, 1, 1);
+            x.hold(g, 0);
+        }
+        text(x, 0, "19*(h=11)");
+        return x;
     }
 
     private static void fewest() {
@@ -679,6 +704,13 @@ public final class PromisesTest {
         due(NONE, x.fewest());
         x.hold(1, 0);
         due(1, x.fewest());
+        // what is open costs Amos nothing, so he needs no room for it
+        x = people(50);
+        for (int g = 0; g < 9; g++) x.gate(0, 1, 9);
+        due(1, x.fewest());
+        for (int g = 0; g < 2; g++) x.hold(g, 0);
+        due(36, x.personIs(0, 3));
+        due(NONE, x.fewest());
         // a guest by night and by day
         x = people(60);
         x.gate(0, 1, 1);
@@ -719,6 +751,7 @@ public final class PromisesTest {
         due(BEYOND, x.cut(-1, 0, 0), x.cut(0, 7, 0), x.cut(2, 2, 0), x.cut(0, 1, 2), x.cut(0, 1, -1));
         due(0, x.cut(0, 1, 0), x.cut(0, 1, 1));
         x.gate(0, 1, 0);
+        due(0, x.cut(0, 2, 0), x.cut(0, 2, 1));
         x.gate(1, 2, 0);
         due(1, x.cut(0, 2, 0), x.cut(0, 2, 1), x.cut(2, 0, 1), x.cut(1, 0, 1));
         x.gate(0, 1, 0);
@@ -829,6 +862,12 @@ public final class PromisesTest {
         due(12, x.fits(0));
         x.hour(9999);
         due(21, x.fits(0));
+        x = dailyGates();
+        x.sheet(0, 8, 3);
+        for (int g = 0; g < 3; g++) x.put(0, g, -1);
+        due(60, x.fits(0));
+        x.hour(23);
+        due(NONE, x.fits(0));
     }
 
     private static void voices() {
@@ -866,6 +905,8 @@ public final class PromisesTest {
         due(PARTED, x.voice(1, 3, 7));
         x.become(1, 11);
         due(PARTED, x.voice(1, 3, 0));
+        due(3, x.told(6));
+        due(1, x.voice(1, 0, 4));
         due(3, x.told(6));
     }
 
