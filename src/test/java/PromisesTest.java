@@ -708,6 +708,9 @@ public final class PromisesTest {
         x = people(50);
         for (int g = 0; g < 9; g++) x.gate(0, 1, 9);
         due(1, x.fewest());
+        text(x, 0, "w*19");
+        due(1, x.fewest());
+        x.untell(0);
         for (int g = 0; g < 2; g++) x.hold(g, 0);
         due(36, x.personIs(0, 3));
         due(NONE, x.fewest());
