@@ -1289,30 +1289,22 @@ public final class GateMinds {
         final int[] trace;
         int traced;
         boolean parted;
-        private final int[] begun;
-        private int began;
         private int kind;
         private int k;
         private int m;
 
         Speech() {
             trace = new int[MOST_TRACE];
-            begun = new int[MOST_TRACE];
         }
 
-        /** What a voice answers; the trace becomes its own, unless it parted. */
+        /** What a voice answers; the trace becomes its own, up to where it parted, if it did. */
         int speak(int itsKind, int itsPlace, int itsNumber, int voice, int x) {
             kind = itsKind;
             k = itsPlace;
             m = itsNumber;
-            began = 0;
+            traced = 0;
             parted = false;
-            int answer = own(voice, x, 0);
-            if (!parted) {
-                System.arraycopy(begun, 0, trace, 0, MOST_TRACE);
-                traced = began;
-            }
-            return answer;
+            return own(voice, x, 0);
         }
 
         private int own(int voice, int x, int depth) {
@@ -1333,12 +1325,13 @@ public final class GateMinds {
         }
 
         private int work(int body, int above, int x, int depth) {
-            if (depth >= DEEPEST_VOICE) {
+            // behind a PARTED nothing is worked out any more, so no body begins
+            if (parted || depth >= DEEPEST_VOICE) {
                 return 0;
             }
-            if (began < begun.length) {
-                begun[began] = body;
-                began++;
+            if (traced < trace.length) {
+                trace[traced] = body;
+                traced++;
             }
             int d = depth + 1;
             switch (body) {

@@ -487,8 +487,10 @@ final class Model {
         Man man = List.of(new Man(), new Lover(), new Thinker(), new Boy(), new Groom(), new Amos(), new Guest()).get(w.people.get(p)[0]);
         man.k = p;
         man.m = w.people.get(p)[1];
-        int v = voice == 0 ? man.nods(x) : voice == 1 ? man.minds(x) : voice == 2 ? man.whistles(x) : man.parts(x);
-        trace = new ArrayList<>(man.heard.subList(0, Math.min(30, man.heard.size())));
-        return v;
+        try {
+            return voice == 0 ? man.nods(x) : voice == 1 ? man.minds(x) : voice == 2 ? man.whistles(x) : man.parts(x);
+        } finally {
+            trace = new ArrayList<>(man.heard.subList(0, Math.min(30, man.heard.size())));
+        }
     }
 }

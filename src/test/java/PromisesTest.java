@@ -939,12 +939,20 @@ public final class PromisesTest {
                 trace(x, bodies[kind][voice]);
             }
         }
-        // an error changes nothing
+        // what is no voice of anybody changes nothing
         x.voice(0, 0, 1);
-        x.voice(6, 1, 1);
-        x.become(1, 11);
-        x.voice(1, 3, 1);
+        due(BEYOND, x.voice(6, 1, 1), x.voice(-1, 3, 1), x.voice(0, 4, 1), x.voice(0, -1, 1));
         trace(x, 70);
+        // the bodies of one that parted, of each kind: a lover's minds(1) doesn't begin any more
+        for (int kind = 0; kind < 7; kind++) {
+            x.voice(0, 1, 1);
+            x.become(1, 10 * kind + 1);
+            due(PARTED, x.voice(1, 3, 1));
+            if (kind == 1 || kind == 4) trace(x, 21, 13); else trace(x, 13);
+        }
+        // what comes behind one that parted begins anew, and is worked out as ever
+        due(9 * 2 + 1, x.voice(1, 1, 0));
+        trace(x, 71, 11, 70);
     }
 
     private static void sheets() {
