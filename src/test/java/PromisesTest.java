@@ -1,58 +1,5 @@
 /** Each promise of the document with ordinary inputs, its edges and wrong inputs; answers worked out by hand. */
-public final class PromisesTest {
-    private static final int BEYOND = -1000000001;
-    private static final int NONE = -1000000002;
-    private static final int STATE = -1000000003;
-    private static final int FULL = -1000000004;
-    private static final int KIND = -1000000005;
-    private static final int PARTED = -1000000006;
-    private static final int MIN = Integer.MIN_VALUE;
-    private static final int MAX = Integer.MAX_VALUE;
-
-    private static int promise = 0;
-    private static int wrong = 0;
-    private static int asked = 0;
-
-    private static void due(int want, int... got) {
-        for (int i = 0; i < got.length; i++) {
-            asked++;
-            if (got[i] != want) {
-                wrong++;
-                StackTraceElement at = new Throwable().getStackTrace()[1];
-                System.out.println("promise " + promise + ", line " + at.getLineNumber() + ", answer " + i + ": " + got[i] + ", due is " + want);
-            }
-        }
-    }
-
-    private static int feed(GateMinds x, String t) {
-        int n = 0;
-        for (int at = 0; at < t.length(); at += 8) {
-            long word = 0;
-            int end = Math.min(t.length(), at + 8);
-            for (int i = at; i < end; i++) word |= (long) (t.charAt(i) & 255) << 8 * (i - at);
-            n = x.feed(word, end - at);
-        }
-        return n;
-    }
-
-    private static int text(GateMinds x, int use, String t) {
-        feed(x, t);
-        return x.text(use);
-    }
-
-    /** People of the kinds and m told, all at once. */
-    private static GateMinds people(int... kms) {
-        GateMinds x = new GateMinds();
-        for (int km : kms) x.person(km);
-        return x;
-    }
-
-    private static int value(String t) {
-        GateMinds x = new GateMinds();
-        int read = text(x, 1, t);
-        return read == 1 ? x.law(1, 7, 3, 20) : read;
-    }
-
+public final class PromisesTest extends Checks {
     public static void main(String[] args) {
         newObject();
         person();
@@ -93,12 +40,11 @@ public final class PromisesTest {
         waiting();
         count();
         told();
-        System.out.println(wrong == 0 ? asked + " answers are as due" : wrong + " of " + asked + " answers are not as due");
-        if (wrong != 0) System.exit(1);
+        end();
     }
 
     private static void newObject() {
-        promise = 1;
+        about("promise 1");
         GateMinds x = new GateMinds();
         for (int what = 0; what < 9; what++) due(0, x.count(what));
         due(1, x.count(9));
@@ -112,7 +58,7 @@ public final class PromisesTest {
     }
 
     private static void person() {
-        promise = 2;
+        about("promise 2");
         GateMinds x = new GateMinds();
         due(BEYOND, x.person(-1), x.person(70), x.person(MIN), x.person(MAX));
         due(0, x.person(0));
@@ -130,7 +76,7 @@ public final class PromisesTest {
     }
 
     private static void personIs() {
-        promise = 3;
+        about("promise 3");
         GateMinds x = people(7, 17, 27, 37, 47, 57);
         due(BEYOND, x.personIs(-1, 0), x.personIs(6, 0), x.personIs(0, -1), x.personIs(0, 5), x.personIs(MIN, MAX));
         for (int p = 0; p < 6; p++) {
@@ -196,7 +142,7 @@ public final class PromisesTest {
     }
 
     private static void become() {
-        promise = 4;
+        about("promise 4");
         GateMinds x = people(25);
         due(BEYOND, x.become(-1, 0), x.become(1, 0), x.become(0, -1), x.become(0, 70));
         due(2, x.become(0, 69));
@@ -206,7 +152,7 @@ public final class PromisesTest {
     }
 
     private static void as() {
-        promise = 5;
+        about("promise 5");
         GateMinds x = people(1, 12, 23, 34, 45, 56);
         due(BEYOND, x.as(-1, 0), x.as(6, 0), x.as(0, -1), x.as(0, 7), x.as(6, 6));
         String under = "1000000 1100000 1010000 1001000 1100100 1010010";
@@ -219,7 +165,7 @@ public final class PromisesTest {
     }
 
     private static void gate() {
-        promise = 6;
+        about("promise 6");
         GateMinds x = people(0);
         due(BEYOND, x.gate(-1, 0, 0), x.gate(7, 0, 0), x.gate(0, -1, 0), x.gate(0, 7, 0), x.gate(3, 3, 0));
         due(BEYOND, x.gate(0, 1, -1), x.gate(0, 1, 10), x.gate(MIN, MAX, MIN));
@@ -231,7 +177,7 @@ public final class PromisesTest {
     }
 
     private static void gateIs() {
-        promise = 7;
+        about("promise 7");
         GateMinds x = people(0, 0);
         due(BEYOND, x.gateIs(0, 0));
         x.gate(6, 2, 9);
@@ -247,7 +193,7 @@ public final class PromisesTest {
     }
 
     private static void hold() {
-        promise = 8;
+        about("promise 8");
         GateMinds x = people(0, 0);
         due(BEYOND, x.hold(0, 0));
         x.gate(0, 1, 0);
@@ -261,7 +207,7 @@ public final class PromisesTest {
     }
 
     private static void pass() {
-        promise = 9;
+        about("promise 9");
         GateMinds x = people(0, 0, 0);
         for (int g = 0; g < 4; g++) x.gate(0, 1, 0);
         due(BEYOND, x.pass(-1, 0), x.pass(0, 3), x.pass(3, 0), x.pass(1, 1), x.pass(0, -1));
@@ -276,20 +222,20 @@ public final class PromisesTest {
     }
 
     private static void stock() {
-        promise = 10;
+        about("promise 10");
         GateMinds x = new GateMinds();
         due(BEYOND, x.stock(-1), x.stock(7), x.stock(MIN));
         for (int b = 0; b < 6; b++) due(b, x.stock(6 - b));
         due(BEYOND, x.stock(7));
         due(FULL, x.stock(0));
         due(6, x.count(2));
-        promise = 11;
+        about("promise 11");
         due(BEYOND, x.stockAt(-1), x.stockAt(6), x.stockAt(MAX), new GateMinds().stockAt(0));
         for (int b = 0; b < 6; b++) due(6 - b, x.stockAt(b));
     }
 
     private static void grass() {
-        promise = 12;
+        about("promise 12");
         GateMinds x = new GateMinds();
         due(BEYOND, x.grass(-1, 0), x.grass(7, 0), x.grass(0, -1), x.grass(0, 100), x.grass(0, MIN));
         due(20, x.grass(6, 99));
@@ -299,7 +245,7 @@ public final class PromisesTest {
     }
 
     private static void feeds() {
-        promise = 13;
+        about("promise 13");
         GateMinds x = new GateMinds();
         due(BEYOND, x.feed(0L, 0), x.feed(0L, 9), x.feed(0L, -1), x.feed(0L, MIN));
         due(0, x.count(6));
@@ -326,7 +272,7 @@ public final class PromisesTest {
     }
 
     private static void texts() {
-        promise = 14;
+        about("promise 14");
         GateMinds x = new GateMinds();
         due(-10, x.text(0), x.text(1));
         feed(x, "w");
@@ -358,7 +304,7 @@ public final class PromisesTest {
     }
 
     private static void faults() {
-        promise = 14;
+        about("promise 14");
         due(-10, value("w"), value(" "), value(")"), value("+1"), value("-1"), value("h"), value("\u00e7"), value("G"));
         due(-11, value("1 "), value("1w"), value("g1"), value("gg"), value("1!"), value("!+"), value("1("), value("1)"), value("!"), value("("), value("()"));
         due(-12, value("1+"), value("1|"), value("1&"), value("1<"), value("1*"), value("1=="), value("1<="), value("!("), value("(1"), value("1/*"));
@@ -380,7 +326,7 @@ public final class PromisesTest {
     }
 
     private static void untell() {
-        promise = 15;
+        about("promise 15");
         GateMinds x = new GateMinds();
         text(x, 0, "3");
         due(BEYOND, x.untell(-1), x.untell(2), x.untell(MAX));
@@ -392,7 +338,7 @@ public final class PromisesTest {
     }
 
     private static void law() {
-        promise = 16;
+        about("promise 16");
         GateMinds x = new GateMinds();
         due(BEYOND, x.law(-1, 0, 0, 0), x.law(2, 0, 0, 0));
         due(0, x.law(0, -1, 5, 5), x.law(1, MIN, 5, 5));
@@ -414,7 +360,7 @@ public final class PromisesTest {
     }
 
     private static void hours() {
-        promise = 17;
+        about("promise 17");
         GateMinds x = new GateMinds();
         due(BEYOND, x.hours(0), x.hours(61), x.hours(-1), x.hours(MIN));
         due(0, x.hours(60), x.hours(1));
@@ -469,7 +415,7 @@ public final class PromisesTest {
     }
 
     private static void strays() {
-        promise = 17;
+        about("promise 17");
         GateMinds x = people(0);
         x.stock(0);
         x.gate(0, 1, 0);
@@ -527,7 +473,7 @@ public final class PromisesTest {
     }
 
     private static void loose() {
-        promise = 18;
+        about("promise 18");
         GateMinds x = new GateMinds();
         due(BEYOND, x.loose(0), x.loose(31), x.loose(-1), x.loose(MIN));
         x.gate(0, 1, 0);
@@ -572,13 +518,13 @@ public final class PromisesTest {
     }
 
     private static void hour() {
-        promise = 19;
+        about("promise 19");
         GateMinds x = new GateMinds();
         due(BEYOND, x.hour(-1), x.hour(10000), x.hour(MIN));
         due(0, x.hour(9999));
         due(9999, x.hour(0));
         due(0, x.hour(0));
-        promise = 20;
+        about("promise 20");
         due(1, x.seed(MIN));
         due(MIN, x.seed(-1000000001));
         due(-1000000001, x.seed(5));
@@ -587,7 +533,7 @@ public final class PromisesTest {
     }
 
     private static void then() {
-        promise = 21;
+        about("promise 21");
         GateMinds x = people(30, 0);
         due(BEYOND, x.then(-1, 0), x.then(61, 0), x.then(0, -1), x.then(0, 2), x.then(MIN, MIN));
         x.gate(0, 1, 8);
@@ -618,7 +564,7 @@ public final class PromisesTest {
     }
 
     private static void first() {
-        promise = 22;
+        about("promise 22");
         GateMinds x = people(0);
         due(BEYOND, x.first(0));
         x.gate(0, 1, 0);
@@ -652,19 +598,8 @@ public final class PromisesTest {
         due(21, x.first(0));
     }
 
-    /** Three gates held by a man for whom they are too heavy in the 12th hour of a day alone. */
-    private static GateMinds dailyGates() {
-        GateMinds x = people(0);
-        for (int g = 0; g < 3; g++) {
-            x.gate(0, 1, 1);
-            x.hold(g, 0);
-        }
-        text(x, 0, "19*(h=11)");
-        return x;
-    }
-
     private static void fewest() {
-        promise = 23;
+        about("promise 23");
         GateMinds x = new GateMinds();
         due(0, x.fewest());
         x.gate(0, 1, 0);
@@ -731,7 +666,7 @@ public final class PromisesTest {
     }
 
     private static void way() {
-        promise = 24;
+        about("promise 24");
         GateMinds x = people(0);
         due(BEYOND, x.way(-1, 0), x.way(0, 7), x.way(7, 7), x.way(MIN, 0));
         due(NONE, x.way(0, 6));
@@ -749,7 +684,7 @@ public final class PromisesTest {
     }
 
     private static void cut() {
-        promise = 25;
+        about("promise 25");
         GateMinds x = people(0);
         due(BEYOND, x.cut(-1, 0, 0), x.cut(0, 7, 0), x.cut(2, 2, 0), x.cut(0, 1, 2), x.cut(0, 1, -1));
         due(0, x.cut(0, 1, 0), x.cut(0, 1, 1));
@@ -777,7 +712,7 @@ public final class PromisesTest {
     }
 
     private static void roams() {
-        promise = 26;
+        about("promise 26");
         GateMinds x = people(0);
         due(BEYOND, x.roams(-1), x.roams(7), x.roams(MAX));
         due(1, x.roams(0));
@@ -795,7 +730,7 @@ public final class PromisesTest {
     }
 
     private static void odds() {
-        promise = 27;
+        about("promise 27");
         GateMinds x = people(0);
         due(BEYOND, x.odds(-1, 0), x.odds(7, 0), x.odds(0, 2), x.odds(0, -1));
         due(STATE, x.odds(0, 0), x.odds(6, 1));
@@ -829,7 +764,7 @@ public final class PromisesTest {
     }
 
     private static void fits() {
-        promise = 28;
+        about("promise 28");
         GateMinds x = people(0, 0);
         due(BEYOND, x.fits(-1), x.fits(4));
         due(NONE, x.fits(0), x.fits(3));
@@ -874,7 +809,7 @@ public final class PromisesTest {
     }
 
     private static void voices() {
-        promise = 29;
+        about("promise 29");
         // number 1 and m 5, of all kinds
         GateMinds x = people(0, 5);
         due(BEYOND, x.voice(-1, 0, 0), x.voice(2, 0, 0), x.voice(0, -1, 0), x.voice(0, 4, 0), x.voice(MAX, MAX, 0));
@@ -920,7 +855,7 @@ public final class PromisesTest {
     }
 
     private static void traces() {
-        promise = 30;
+        about("promise 30");
         GateMinds x = people(9, 19, 29, 39, 49, 59);
         trace(x);
         int[][][] bodies = {
@@ -956,7 +891,7 @@ public final class PromisesTest {
     }
 
     private static void sheets() {
-        promise = 31;
+        about("promise 31");
         GateMinds x = new GateMinds();
         due(BEYOND, x.sheet(-1, 8, 1), x.sheet(4, 8, 1), x.sheet(0, 7, 1), x.sheet(0, -8, -1), x.sheet(0, 64, 1), x.sheet(4, 0, 1));
         due(STATE, x.sheet(0, 8, -1), x.sheet(3, 32, MIN));
@@ -976,7 +911,7 @@ public final class PromisesTest {
     }
 
     private static void put() {
-        promise = 32;
+        about("promise 32");
         GateMinds x = new GateMinds();
         due(BEYOND, x.put(-1, 0, 0), x.put(4, 0, 0));
         due(NONE, x.put(0, 0, 0), x.put(3, -1, 0));
@@ -1011,7 +946,7 @@ public final class PromisesTest {
     }
 
     private static void move() {
-        promise = 33;
+        about("promise 33");
         GateMinds x = new GateMinds();
         x.sheet(0, 8, 4);
         x.sheet(1, 8, 2);
@@ -1035,7 +970,7 @@ public final class PromisesTest {
     }
 
     private static void holds() {
-        promise = 34;
+        about("promise 34");
         GateMinds x = people(0, 0, 0);
         due(BEYOND, x.holds(-1), x.holds(4));
         due(NONE, x.holds(0), x.holds(3));
@@ -1063,7 +998,7 @@ public final class PromisesTest {
     }
 
     private static void judge() {
-        promise = 35;
+        about("promise 35");
         GateMinds x = new GateMinds();
         due(BEYOND, x.judge(-1), x.judge(4));
         due(NONE, x.judge(0), x.judge(3));
@@ -1082,7 +1017,7 @@ public final class PromisesTest {
     }
 
     private static void images() {
-        promise = 36;
+        about("promise 36");
         GateMinds x = people(35, 12);
         due(NONE, x.restore());
         x.gate(0, 1, 4);
@@ -1098,7 +1033,7 @@ public final class PromisesTest {
         x.sheet(0, 8, 1);
         due(1, x.image());
         change(x);
-        promise = 37;
+        about("promise 37");
         for (int n = 0; n < 2; n++) {
             due(77, x.restore());
             due(2, x.count(0), x.count(1), x.count(5), x.count(6), x.count(7));
@@ -1119,13 +1054,13 @@ public final class PromisesTest {
         due(1, x.put(0, 0, 3), x.count(8));
         due(10, x.body(0));
         due(1, x.told(2), x.told(1));
-        promise = 36;
+        about("promise 36");
         x.hour(80);
         due(2, x.image());
         x.hour(5);
-        promise = 37;
+        about("promise 37");
         due(80, x.restore());
-        promise = 36;
+        about("promise 36");
         due(3, x.image());
         x.restore();
         due(4, x.image());
@@ -1153,12 +1088,12 @@ public final class PromisesTest {
     }
 
     private static void waiting() {
-        promise = 38;
+        about("promise 38");
         GateMinds x = people(0, 10);
         for (int n = 1; n <= 24; n++) due(n, x.tell(0));
         due(FULL, x.tell(0), x.tell(1));
         due(24, x.count(7));
-        promise = 39;
+        about("promise 39");
         due(3, x.check());
         due(0, x.check(), x.count(7));
         x.gate(0, 1, 4);
@@ -1183,7 +1118,7 @@ public final class PromisesTest {
     }
 
     private static void count() {
-        promise = 40;
+        about("promise 40");
         GateMinds x = people(0, 0, 0);
         due(BEYOND, x.count(-1), x.count(10), x.count(MIN));
         for (int g = 0; g < 4; g++) x.gate(0, 1, 0);
@@ -1209,7 +1144,7 @@ public final class PromisesTest {
     }
 
     private static void told() {
-        promise = 41;
+        about("promise 41");
         GateMinds x = people(0);
         due(BEYOND, x.told(0), x.told(7), x.told(-1), x.told(MIN), x.told(MAX));
         due(5, x.told(1));
