@@ -303,6 +303,11 @@ public final class PromiseEdgesTest extends Checks {
         due(0, x.count(6));
         due(40, x.law(1, 9, 9, 9));
         due(9, x.law(0, 9, 8, 8));
+        // 60 bytes of which each one counts
+        due(1, text(x, 1, "!" + LONGEST.substring(0, 59)));
+        due(29, x.law(1, 9, 9, 9));
+        due(1, text(x, 1, "!1"), text(x, 0, "!!!!!g"));
+        // a shorter one in place of one ahead: nothing of that one is left
         due(1, text(x, 1, "g"), text(x, 0, "5"));
         due(9, x.law(1, 9, 8, 8));
         due(5, x.law(0, 9, 8, 8));

@@ -18,6 +18,7 @@ public final class TermEdgesTest extends Checks {
         costs();
         costsByWhoHolds();
         loads();
+        byNumbers();
         lettingGo();
         grazing();
         strays();
@@ -360,6 +361,11 @@ public final class TermEdgesTest extends Checks {
         x.hold(1, 1);
         x.hold(2, 1);
         due(NONE, x.fewest());
+        // 0 and no more: nine times what one costs would be 81
+        x = people(50);
+        for (int g = 0; g < 9; g++) x.gate(0, 1, 9);
+        text(x, 0, "w*9");
+        due(1, x.fewest());
 
         about("Terms 1: GUEST: as MAN, and the rest of the GATE's number by 3.");
         x = people(60);
@@ -384,6 +390,33 @@ public final class TermEdgesTest extends Checks {
         x.pass(0, 1);
         due(81, x.personIs(1, 3));
         due(0, x.personIs(0, 3));
+    }
+
+    private static void byNumbers() {
+        about("Terms 1: Then STOCK by numbers");
+        // GRASS 2, 3, 2: the first one goes over to FIELD 1 and leaves 2 there, which draws the second one no more
+        GateMinds x = new GateMinds();
+        x.stock(0);
+        x.stock(2);
+        x.gate(0, 1, 0);
+        x.gate(1, 2, 0);
+        x.grass(0, 2);
+        x.grass(1, 3);
+        x.grass(2, 2);
+        due(3, x.hours(1));
+        due(1, x.stockAt(0), x.count(4));
+        due(2, x.stockAt(1));
+        due(2, x.grass(0, 0), x.grass(1, 0));
+        due(1, x.grass(2, 0));
+        // three at one FIELD: the first one stays, which leaves less than beyond the GATE; so the second one goes, and the third one stays
+        x = new GateMinds();
+        for (int b = 0; b < 3; b++) x.stock(0);
+        x.gate(0, 1, 0);
+        x.hours(1);
+        due(0, x.stockAt(0), x.stockAt(2));
+        due(1, x.stockAt(1), x.count(4));
+        due(18, x.grass(0, 0));
+        due(19, x.grass(1, 0));
     }
 
     private static void lettingGo() {
@@ -1021,6 +1054,12 @@ public final class TermEdgesTest extends Checks {
         due(1 + 64, x.cut(0, 6, 1));
         due(8 + 1, x.cut(3, 4, 1));
         due(1 + 2, x.cut(1, 2, 1));
+        // HELD or OPEN, it is all one
+        for (int g = 0; g < 7; g++) {
+            x.hold(g, 0);
+            due(1 + 64, x.cut(0, 6, 1));
+            due(2, x.cut(0, 6, 0), x.cut(g, (g + 1) % 7, 0));
+        }
         // fewer with greater numbers go ahead of more with lesser ones
         x = new GateMinds();
         for (int g = 0; g < 7; g++) x.gate(0, 1, 0);
@@ -1166,7 +1205,8 @@ public final class TermEdgesTest extends Checks {
         // an answer that looks like an ERROR is none
         due(-1000000001, x.voice(1, 0, -1000000002));
         due(-1000000006, x.voice(1, 0, -1000000007));
-        due(0, x.told(1), x.told(6));
+        due(-1000000000, x.voice(1, 0, -1000000001));
+        for (int k = 1; k <= 6; k++) due(0, x.told(k));
     }
 
     private static void parted() {
